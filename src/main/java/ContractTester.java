@@ -841,10 +841,6 @@ public final class ContractTester {
         private final int[] calls = new int[LONGEST_SEQUENCE];
         private int length;
 
-        void clear() {
-            length = 0;
-        }
-
         void append(int method) {
             if (length < LONGEST_SEQUENCE) {
                 calls[length] = method;
@@ -862,7 +858,7 @@ public final class ContractTester {
         }
 
         void copyWithout(Sequence other, int leftOut) {
-            clear();
+            length = 0;
             for (int index = 0; index < other.length; index++) {
                 if (index != leftOut) {
                     append(other.callAt(index));
@@ -899,8 +895,8 @@ public final class ContractTester {
             poolCount = 1;
         }
 
+        /** Sequence 0 is the empty one at all times. */
         void restart() {
-            sequences[0].clear();
             states[0].copyFrom(component.initial);
             processed[0] = 0;
             poolCount = 1;

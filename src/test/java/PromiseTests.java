@@ -36,6 +36,7 @@ public final class PromiseTests {
         reset();
         undo();
         undoOfEachEdit();
+        undoToAnotherComponent();
         openPairs();
         skippedPairs();
         redundantPairs();
@@ -161,7 +162,9 @@ public final class PromiseTests {
     private static void textsInError() {
         String[] texts = {
             "^;", "^x", "^Method do x=1;", "^methods do x=1;", "^\tmethod do x=1;", "^\u00a0", "^\u00ff", "^\u0000",
-            "init ^w 1;", "init ^1 1;", "init ^xy 1;", "^initx 1;", "init x ^x;", "init x ^123;", "init x ^007;",
+            "^require do x=1;", "^do do x=1;", "method ^method x<1 do x=1;", "method do x=1 ^old x=1;",
+            "method do x=1 ensure ^ensure x=1;", "method ^init x 1;", "^" + ";".repeat(200), "^" + "9".repeat(200),
+            "^xnit x 1;", "init ^;", "init ^w 1;", "init ^1 1;", "init ^xy 1;", "^initx 1;", "init x ^x;", "init x ^123;", "init x ^007;",
             "init x -^-1;", "init x ^+1;", "init x 1 ^2;", "init x 1 ^init", "init x -^;", "init x ^;",
             "init ^", "init x ^", "init x -^", "init x 1^", "init x 1  ^", "init x 1;^;", "init x 1; ^x", "init x 1;^1",
             "invariant ^", "invariant ^;", "invariant x^", "invariant x^;", "invariant x^+1;", "invariant x<^",
@@ -176,6 +179,8 @@ public final class PromiseTests {
             "method do x=^;", "method do x=^old x;", "method do x=^+1;", "method do x=1^", "method do x=1 ^2;",
             "method do x=1+^", "method do x=1+^;", "method do x=1+^old x;", "method do x=1+2^+3;",
             "method do x=-1-^+1;", "method do x=1+2^", "method do x=1^=1;", "method do x=^aa;", "method do x=^w;",
+            "method do ^zx=1;", "method do x=^zz;", "method do x=1 do ^;", "method do x=1 do x^;",
+            "method do x=1 do x=^;", "method do x=1 do x=1-^;",
             "method do x=1 do x=1 do x=1 ^do x=1;", "method do x=1 ^require x=1;", "method do x=1 ^method",
             "method do x=1 ensure ^", "method do x=1 ensure ^do x=1;", "method do x=1 ensure x=1^",
             "method do x=1 ensure x=1 ^do x=1;", "method do x=1 ensure x=1 ^require x=1;",
@@ -468,6 +473,9 @@ public final class PromiseTests {
         tester.explore(200);
         due("reset of a full pool", 40, tester.reset());
         due("dropped after", 0, tester.droppedPairs());
+        due("explore again", 140, tester.explore(200));
+        due("pool again", 40, tester.poolSize());
+        due("dropped again", 50, tester.droppedPairs());
     }
 
     // 13
@@ -543,6 +551,35 @@ public final class PromiseTests {
         due("the invariant of before", 4, Answers.run(tester, "0"));
         due("undo of the first load", 0, tester.undo());
         due("methods", 0, tester.methodCount());
+    }
+
+    // 13
+    private static void undoToAnotherComponent() {
+        ContractTester tester = Answers.with(COUNTERS + ALWAYS_FAILS);
+        tester.explore(200);
+        Answers.load(tester, "init x 7;method do x=99+1;method do x=x-2 do y=1;");
+        tester.setMaximumLength(8);
+        tester.explore(200);
+        due("failures of the other component", 8, tester.failureCount());
+        due("undo of explore", 4, tester.undo());
+        due("undo of setMaximumLength", 3, tester.undo());
+        due("undo of load", 2, tester.undo());
+        due("pool", 40, tester.poolSize());
+        due("dropped", 50, tester.droppedPairs());
+        due("redundant", 31, tester.redundantPairs());
+        due("length of sequence 39", 5, tester.sequenceLength(39));
+        due("length of sequence 3", 1, tester.sequenceLength(3));
+        due("call 0 of sequence 3", 2, tester.sequenceCall(3, 0));
+        due("state of sequence 3", 1, tester.finalValue(3, 2));
+        due("the initial state", 0, tester.findState(0, 0, 0));
+        due("failures", 20, tester.failureCount());
+        for (int failure = 0; failure < 20; failure++) {
+            int length = tester.sequenceLength(failure);
+            due("length of failure " + failure, length + 1, tester.failureLength(failure));
+            due("last call of failure " + failure, 3, tester.failureCall(failure, length));
+            due("verdict of failure " + failure, 3, tester.failureVerdict(failure));
+        }
+        due("open", 0, tester.openPairs());
     }
 
     // 14
@@ -816,6 +853,14 @@ public final class PromiseTests {
         due("stays as long", 8, tester.minimizedLength(0));
         due("its first call", 0, tester.minimizedCall(0, 0));
         due("its last call", 1, tester.minimizedCall(0, 7));
+
+        tester = Answers.with("method do x=x+1;method require x=2 do x=99+1;method do y=0 ensure y=1;");
+        tester.explore(200);
+        // The failures: 2, 0 2, 0 0 1, 0 0 2, and so on.
+        due("minimized failure 2", 3, tester.minimizedLength(2));
+        due("call 0 of minimized failure 1", 2, tester.minimizedCall(1, 0));
+        due("call 2 of minimized failure 2", 1, tester.minimizedCall(2, 2));
+        due("minimized failure 3", 1, tester.minimizedLength(3));
     }
 
     // 28 and 29
